@@ -19,6 +19,8 @@ public final class SnakeRow {
     private static final int TRIAL = 12;
     private static final int SEEDS = 65537;
     private static final int MOST_ORDERED = 7;
+    // above all who can ever be there, those who join too
+    private static final int MOST_TORN = 100;
 
     private final Sheet tape;
     private final Hall draft;
@@ -257,7 +259,7 @@ public final class SnakeRow {
     }
 
     public int grows(int k, int i) {
-        if (i < 1 || i >= now.crew.count() - 1 || !isDancer(i + 1)) {
+        if (i < 1 || !isDancer(i) || !isDancer(i + 1)) {
             return refuse(NO_SUCH);
         }
         if (k < 1 || k > 4) {
@@ -636,7 +638,7 @@ public final class SnakeRow {
     }
 
     private int bestOrder() {
-        int least = Integer.MAX_VALUE;
+        int least = MOST_TORN;
         orders.begin(now.crew.count());
         for (int tries = 0; tries < Orders.MOST; tries++) {
             future.begin(now);

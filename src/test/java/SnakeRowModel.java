@@ -59,6 +59,8 @@ public final class SnakeRowModel {
       check(log, round, "fault()", x.fault(), m.fault);
       check(log, round, "where()", x.where(), m.where());
       if (before < 0 && m.text == null) continue;
+      boolean far = oneIn(14);
+      for (int i = 0; i < 9 && far; i++) check(log, round, "dance(20)", x.dance(20), m.dance(20));
       for (int i = 0; i < CALLS / halls && wrong < 20; i++) ask(x, m, log, round);
       if (oneIn(3)) walkState(x, m, log, round);
     }
@@ -96,16 +98,20 @@ public final class SnakeRowModel {
     return false;
   }
 
-  private static int small() { return draw(20) - 3; }
+  private static final List<Integer> WILD = List.of(Integer.MAX_VALUE, Integer.MIN_VALUE, 1 << 30, -2, 255, 65536);
 
-  private static int time() { return oneIn(12) ? any(List.of(-1, 41, 40, 99)) : draw(25); }
+  private static int small() { return oneIn(8) ? any(WILD) : draw(20) - 3; }
+
+  private static int time() { return oneIn(40) ? any(WILD) : oneIn(12) ? any(List.of(-1, 41, 40, 99)) : draw(25); }
+
+  private static int along(int most) { return oneIn(25) ? any(WILD) : draw(most) - 1; }
 
   private static void ask(SnakeRow x, Model m, List<String> log, int round) {
     int what = draw(64);
     int i = oneIn(3) ? small() : draw(6);
     int j = oneIn(3) ? small() : draw(6);
     int t = time();
-    int cx = draw(10) - 1, cy = draw(8) - 1;
+    int cx = along(10), cy = along(8);
     switch (what) {
       case 0: check(log, round, "many()", x.many(), m.many()); break;
       case 1: check(log, round, "cell(" + cx + "," + cy + ")", x.cell(cx, cy), m.cell(cx, cy)); break;
@@ -125,16 +131,20 @@ public final class SnakeRowModel {
       case 16: check(log, round, "tornBy(" + t + ")", x.tornBy(t), m.tornBy(t)); break;
       case 17: check(log, round, "joined(" + t + ")", x.joined(t), m.joined(t)); break;
       case 18: check(log, round, "ring(" + t + ")", x.ring(t), m.ring(t)); break;
-      case 19: check(log, round, "jolt(" + j + "," + i + ")", x.jolt(j, i), m.jolt(j, i)); break;
-      case 20: check(log, round, "grows(" + j + "," + i + ")", x.grows(j, i), m.grows(j, i)); break;
+      case 19: case 20: case 60: {
+        int k = oneIn(9) ? any(WILD) : draw(6), who = draw(Math.max(1, m.many()) + 1);
+        check(log, round, "jolt(" + k + "," + who + ")", x.jolt(k, who), m.jolt(k, who));
+        check(log, round, "grows(" + k + "," + who + ")", x.grows(k, who), m.grows(k, who));
+        break;
+      }
       case 21: check(log, round, "holds()", x.holds(), m.holds()); break;
       case 22: if (oneIn(12)) check(log, round, "order()", x.order(), m.order()); break;
       case 23: if (oneIn(12)) check(log, round, "orderAt(" + i + ")", x.orderAt(i), m.orderAt(i)); break;
       case 24: check(log, round, "leader(" + t + ")", x.leader(t), m.leader(t)); break;
-      case 25: if (oneIn(3)) { int d = draw(8) - 1; check(log, round, "plan(" + d + ")", x.plan(d), m.plan(d)); } break;
-      case 26: if (oneIn(3)) { int d = draw(8) - 1; check(log, round, "planAt(" + d + "," + i + ")", x.planAt(d, i), m.planAt(d, i)); } break;
+      case 25: if (oneIn(3)) { int d = along(8); check(log, round, "plan(" + d + ")", x.plan(d), m.plan(d)); } break;
+      case 26: if (oneIn(3)) { int d = along(8); check(log, round, "planAt(" + d + "," + i + ")", x.planAt(d, i), m.planAt(d, i)); } break;
       case 27: {
-        int seed = oneIn(4) ? any(List.of(-1, 65537, 65536, 65530)) : draw(65537);
+        int seed = oneIn(4) ? any(List.of(-1, 65537, 65536, 65530, Integer.MAX_VALUE)) : draw(65537);
         int n = oneIn(5) ? any(List.of(0, 21, 20)) : 1 + draw(5);
         check(log, round, "mean(" + seed + "," + n + "," + t + ")", x.mean(seed, n, t), m.mean(seed, n, t));
         break;
@@ -146,23 +156,23 @@ public final class SnakeRowModel {
       case 32: check(log, round, "out()", x.out(), m.out()); break;
       case 33: check(log, round, "fits()", x.fits(), m.fits()); break;
       case 34: case 35: case 36: case 37: {
-        int n = oneIn(6) ? any(List.of(0, 21, 20, -3)) : 1 + draw(5);
+        int n = oneIn(6) ? any(List.of(0, 21, 20, -3, Integer.MAX_VALUE, Integer.MIN_VALUE)) : 1 + draw(5);
         check(log, round, "dance(" + n + ")", x.dance(n), m.dance(n));
         break;
       }
-      case 38: case 39: { int g = draw(8) - 1; check(log, round, "lead(" + g + ")", x.lead(g) ? 1 : 0, m.lead(g) ? 1 : 0); break; }
+      case 38: case 39: { int g = along(8); check(log, round, "lead(" + g + ")", x.lead(g) ? 1 : 0, m.lead(g) ? 1 : 0); break; }
       case 40: case 41: check(log, round, "change(" + i + "," + j + ")", x.change(i, j) ? 1 : 0, m.change(i, j) ? 1 : 0); break;
       case 42: if (oneIn(3)) check(log, round, "letGo(" + i + ")", x.letGo(i) ? 1 : 0, m.letGo(i) ? 1 : 0); break;
       case 43: check(log, round, "band(" + cx + "," + cy + ")", x.band(cx, cy) ? 1 : 0, m.band(cx, cy) ? 1 : 0); break;
       case 44: { int v = oneIn(5) ? any(List.of(-1, 65537, 65536)) : draw(65537); check(log, round, "seed(" + v + ")", x.seed(v) ? 1 : 0, m.seed(v) ? 1 : 0); break; }
       case 45: case 46: case 47: check(log, round, "undo()", x.undo() ? 1 : 0, m.undo() ? 1 : 0); break;
       case 48: check(log, round, "mark()", x.mark(), m.mark()); break;
-      case 49: { int k = draw(5) - 1; check(log, round, "back(" + k + ")", x.back(k) ? 1 : 0, m.back(k) ? 1 : 0); break; }
+      case 49: { int k = along(5); check(log, round, "back(" + k + ")", x.back(k) ? 1 : 0, m.back(k) ? 1 : 0); break; }
       case 50: check(log, round, "table(" + i + "," + j + ")", x.table(i, j), m.table(i, j)); break;
       case 51: check(log, round, "steps(" + i + ")", x.steps(i), m.steps(i)); break;
       case 52: case 53: check(log, round, "led(" + i + ")", ledOf(x, i), m.led(i)); break;
-      case 54: case 55: { int s = draw(18) - 1; check(log, round, "size(" + s + ")", x.size(s), m.size(s)); break; }
-      case 56: { int n = draw(2) * 9999 - 1; check(log, round, "hall(" + n + ")", x.hall(n), m.hall(n)); break; }
+      case 54: case 55: { int s = along(18); check(log, round, "size(" + s + ")", x.size(s), m.size(s)); break; }
+      case 56: { int n = any(List.of(-1, 9999, 901, Integer.MIN_VALUE, Integer.MAX_VALUE)); check(log, round, "hall(" + n + ")", x.hall(n), m.hall(n)); break; }
       case 57: check(log, round, "feed", x.feed(what, i, j, t, round), m.feed(what, i, j, t, round)); break;
       case 58: check(log, round, "where()", x.where(), m.where()); break;
       case 59: check(log, round, "fault()", x.fault(), m.fault); break;

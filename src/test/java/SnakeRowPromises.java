@@ -236,7 +236,7 @@ public final class SnakeRowPromises {
     fault(1, "hall wide 3 high 2 law round joins end |row fff");
     fault(1, "hall wide 3 high 2 law round joins end;|");
     fault(1, "hall wide 3 high 2 law round joins end; |;");
-    fault(1, HEAD + "table |row at 0,0");
+    for (String line : "hall row band home steps leads table dancer snake frame".split(" ")) fault(1, HEAD + "table |" + line + " at 0,0");
     fault(1, HEAD + "table |abcdefghi at 0,0");
     fault(1, HEAD + "table |3 at 0,0");
     fault(1, HEAD + "table a |on");
@@ -344,6 +344,9 @@ public final class SnakeRowPromises {
     fault(7, walled + ONE + ONE + "snake 1,0 |east");
     fault(7, HEAD + TABLE + ONE + ONE + "snake 0,1 |south");
     fault(7, HEAD + ONE + times(3, ONE) + "snake 2,0 |east");
+    // NAMES may be any other WORDS, and need no more than a letter's unlikeness
+    read(HEAD + TABLE.replace("table a", "table az") + TABLE.replace("a at 0,0", "azz at 1,0") + TABLE.replace("a at 0,0", "at at 2,0")
+        + TABLE.replace("a at 0,0", "zzzzzzzz at 0,1") + ONE + MEANS + "snake 1,1 west");
     // a band and a home may be told on a wall
     read(walled + "band 0,0 sound 1;home 0,0;" + ONE + MEANS + "snake 1,1 west");
   }
@@ -773,6 +776,8 @@ public final class SnakeRowPromises {
     refused(x, "grows(1,3)", x.grows(1, 3), 1);
     refused(x, "grows(1,0)", x.grows(1, 0), 1);
     refused(x, "grows(9,0)", x.grows(9, 0), 1);
+    refused(x, "grows(1,2147483647)", x.grows(1, Integer.MAX_VALUE), 1);
+    refused(x, "grows(1,-2147483648)", x.grows(1, Integer.MIN_VALUE), 1);
     refused(x, "grows(0,1)", x.grows(0, 1), 2);
     refused(x, "grows(5,1)", x.grows(5, 1), 2);
     refused(none, "grows without a HALL", none.grows(1, 1), 1);
