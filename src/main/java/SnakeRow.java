@@ -338,7 +338,8 @@ public final class SnakeRow {
         if (best < 0) {
             return NONE;
         }
-        future.tryPlan(now, d, best);
+        future.beginPlan(now, d, best);
+        future.run(d);
         return answer(future.row.crew.count());
     }
 
@@ -666,7 +667,8 @@ public final class SnakeRow {
         int best = 0;
         int most = -1;
         for (int code = 0; code < 1 << (2 * d); code++) {
-            future.tryPlan(now, d, code);
+            future.beginPlan(now, d, code);
+            future.run(d);
             if (future.row.crew.count() > most) {
                 most = future.row.crew.count();
                 best = code;
@@ -1180,11 +1182,28 @@ public final class SnakeRow {
 
         void run(int t) {
             for (int i = 0; i < t; i++) {
-                beat();
+                beats++;
+                if (row.closed != 0) {
+                    continue;
+                }
+                int due = stepsDue();
+                row.beat++;
+                if (goAhead(due)) {
+                    row.closed = BY_RING;
+                    ringAt = beats;
+                    continue;
+                }
+                comeAfter();
+                tear();
+                leaveOnStairs();
+                askAround();
+                if (row.path.count() > WAY_END) {
+                    row.closed = BY_WAY;
+                }
             }
         }
 
-        void tryPlan(Row from, int d, int code) {
+        void beginPlan(Row from, int d, int code) {
             begin(from);
             sides.cut(0);
             for (int i = 0; i < d; i++) {
@@ -1192,9 +1211,6 @@ public final class SnakeRow {
             }
             row.guide = Row.TOLD;
             row.next = 0;
-            for (int i = 0; i < d; i++) {
-                beat();
-            }
         }
 
         /** A plan is a number of d digits from 0 to 3, the first one highest, so counting up keeps the order of sides. */
@@ -1207,7 +1223,7 @@ public final class SnakeRow {
             still = standing;
             wide.blank(NUMBERS, LACKING);
             for (int i = 0; i < standing + more; i++) {
-                beat();
+                run(1);
                 measure();
             }
         }
@@ -1219,7 +1235,7 @@ public final class SnakeRow {
                         return false;
                     }
                 }
-                beat();
+                run(1);
             }
             return true;
         }
@@ -1237,29 +1253,6 @@ public final class SnakeRow {
             for (int i = 1; i < row.crew.count(); i++) {
                 int number = row.crew.get(i, Row.NUMBER);
                 wide.put(number, 0, Math.max(wide.get(number, 0), row.gapOf(i)));
-            }
-        }
-
-        private void beat() {
-            beats++;
-            if (row.closed != 0) {
-                return;
-            }
-            int due = stepsDue();
-            row.beat++;
-            if (goAhead(due)) {
-                row.closed = BY_RING;
-                ringAt = beats;
-                return;
-            }
-            comeAfter();
-            tear();
-            leaveOnStairs();
-            for (int t = 0; t < hall.tables.count(); t++) {
-                ask(t);
-            }
-            if (row.path.count() > WAY_END) {
-                row.closed = BY_WAY;
             }
         }
 
@@ -1284,7 +1277,7 @@ public final class SnakeRow {
                 row.path.push(cell);
                 row.crew.put(0, Row.PLACE, row.path.count() - 1);
                 row.look = side;
-                went(0, 1);
+                tally(0, 1);
                 if (hall.round && shut.get(cell, 0) != 0) {
                     return true;
                 }
@@ -1353,7 +1346,8 @@ public final class SnakeRow {
         private int sideHome() {
             int best = -1;
             int least = Hall.CELLS;
-            if (row.cellOf(0) == hall.home) {
+            // the front is always at the WAY's end
+            if (row.path.get(row.path.count() - 1, 0) == hall.home) {
                 return -1;
             }
             for (int side = 0; side < 4; side++) {
@@ -1375,7 +1369,7 @@ public final class SnakeRow {
             return sides.get(row.next - 1, 0);
         }
 
-        private void went(int i, int cells) {
+        private void tally(int i, int cells) {
             int number = row.crew.get(i, Row.NUMBER);
             went.put(number, 0, went.get(number, 0) + cells);
         }
@@ -1395,7 +1389,7 @@ public final class SnakeRow {
                     legs -= cost;
                 }
                 row.crew.put(i, Row.PLACE, place);
-                went(i, place - from);
+                tally(i, place - from);
             }
         }
 
@@ -1423,16 +1417,19 @@ public final class SnakeRow {
             }
         }
 
-        private void ask(int table) {
-            int left = row.seats.get(table, 0);
-            int asker = askerAt(hall.tables.get(table, Hall.SPOT));
-            if (left < 1 || asker < 0 || row.crew.count() >= Row.MOST) {
-                return;
-            }
-            if (row.draw() % 100 < hall.tables.get(table, Hall.EAGER)) {
-                row.seats.put(table, 0, left - 1);
-                row.join(hall, table, asker);
-                joins++;
+        private void askAround() {
+            for (int table = 0; table < hall.tables.count(); table++) {
+                int left = row.seats.get(table, 0);
+                int asker = askerAt(hall.tables.get(table, Hall.SPOT));
+                if (left < 1 || asker < 0 || row.crew.count() >= Row.MOST) {
+                    continue;
+                }
+                // the DRAW is made by asking, whether one joins or not
+                if (row.draw() % 100 < hall.tables.get(table, Hall.EAGER)) {
+                    row.seats.put(table, 0, left - 1);
+                    row.join(hall, table, asker);
+                    joins++;
+                }
             }
         }
 
@@ -1603,16 +1600,45 @@ public final class SnakeRow {
         }
 
         boolean read(int n) {
-            hall.clear();
-            names.cut(0);
-            limit = n;
-            end = 0;
-            fault = 0;
-            place = 0;
-            goOn();
+            begin(n);
             // every LINE takes a byte at least
             for (int i = 0; i <= limit; i++) {
-                if (!readLine()) {
+                boolean good;
+                switch (lineComing()) {
+                    case 0:
+                        good = readHall();
+                        break;
+                    case 1:
+                        good = readRow();
+                        break;
+                    case 2:
+                        good = readBand();
+                        break;
+                    case 3:
+                        good = readHome();
+                        break;
+                    case 4:
+                        good = readSteps();
+                        break;
+                    case 5:
+                        good = readLeads();
+                        break;
+                    case 6:
+                        good = readTable();
+                        break;
+                    case 7:
+                        good = readDancer();
+                        break;
+                    case 8:
+                        good = readSnake();
+                        break;
+                    case 9:
+                        good = readFrame();
+                        break;
+                    default:
+                        good = false;
+                }
+                if (!good) {
                     return false;
                 }
                 if (sort == END) {
@@ -1625,43 +1651,31 @@ public final class SnakeRow {
             return fail(FORM, start);
         }
 
-        private boolean isWhole() {
-            boolean lacks = hall.paces.count() < 1 || hall.guide < 0 || hall.front < 0;
-            return lacks ? fail(LACKS, limit) : true;
+        private void begin(int n) {
+            hall.clear();
+            names.cut(0);
+            limit = n;
+            end = 0;
+            fault = 0;
+            place = 0;
+            goOn();
         }
 
-        private boolean readLine() {
+        private boolean isWhole() {
+            boolean lacks = hall.paces.count() < 1 || hall.guide < 0 || hall.front < 0;
+            return !lacks || fail(LACKS, limit);
+        }
+
+        /** Which LINE begins here; -1 if none can, or not this one. */
+        private int lineComing() {
             int line = sort == WORD ? oneOf(LINES) : -1;
-            if (line < 0) {
-                return fail(FORM, start);
-            }
-            int wrong = lineFault(line);
+            int wrong = line < 0 ? FORM : lineFault(line);
             if (wrong != 0) {
-                return fail(wrong, start);
+                fail(wrong, start);
+                return -1;
             }
             goOn();
-            switch (line) {
-                case 0:
-                    return readHall();
-                case 1:
-                    return readRow();
-                case 2:
-                    return readBand();
-                case 3:
-                    return readHome();
-                case 4:
-                    return readSteps();
-                case 5:
-                    return readLeads();
-                case 6:
-                    return readTable();
-                case 7:
-                    return readDancer();
-                case 8:
-                    return readSnake();
-                default:
-                    return readFrame();
-            }
+            return line;
         }
 
         /** What is wrong with a LINE's coming here at all; of several the least. */
