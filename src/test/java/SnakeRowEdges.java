@@ -1,5 +1,4 @@
 import java.util.Arrays;
-import java.util.NoSuchElementException;
 
 /**
  * Each sentence of the document that names a bound, told with it: the last value that is allowed and the first that
@@ -56,6 +55,7 @@ public final class SnakeRowEdges {
     filmed();
     acted();
     undoneAndMarked();
+    toldAtTheBounds();
     ledInOrder();
     System.out.println(wrong == 0 ? "all edges hold" : wrong + " answers at the edges are not as told");
     if (wrong != 0) System.exit(1);
@@ -73,27 +73,9 @@ public final class SnakeRowEdges {
 
   private static void due(String call, boolean got) { due(call, got ? 1 : 0, 1); }
 
-  private static String times(int n, String text) {
-    StringBuilder all = new StringBuilder();
-    for (int i = 0; i < n; i++) all.append(text);
-    return all.toString();
-  }
-
-  private static int bytes(String text, int at) {
-    int all = 0;
-    for (int k = 0; k < 4; k++) all = all << 8 | (at + k < text.length() ? text.charAt(at + k) : 32);
-    return all;
-  }
-
-  private static void put(SnakeRow x, String text) {
-    for (int i = 0; i < text.length(); i += 20) {
-      x.feed(bytes(text, i), bytes(text, i + 4), bytes(text, i + 8), bytes(text, i + 12), bytes(text, i + 16));
-    }
-  }
-
   private static SnakeRow sound(String text) {
     SnakeRow x = new SnakeRow();
-    put(x, text);
+    Texts.put(x, text);
     if (x.hall(text.length()) < 0) {
       wrong++;
       System.out.println("\"" + told + "\": refused by " + x.trouble() + ", " + x.fault() + " at " + x.where() + ": " + text);
@@ -106,19 +88,11 @@ public final class SnakeRowEdges {
     int place = barred.indexOf('|');
     String text = barred.substring(0, place) + barred.substring(place + 1);
     SnakeRow x = new SnakeRow();
-    put(x, text);
+    Texts.put(x, text);
     due("hall of " + barred, x.hall(text.length()), -1);
     due("trouble() of " + barred, x.trouble(), 4);
     due("fault() of " + barred, x.fault(), number);
     due("where() of " + barred, x.where(), place);
-  }
-
-  private static long led(SnakeRow x, int i) {
-    try {
-      return x.led(i);
-    } catch (NoSuchElementException none) {
-      return -99;
-    }
   }
 
   private static final String HEAD = "hall wide 3 high 2 law through joins end;row fff;row fff;";
@@ -127,7 +101,7 @@ public final class SnakeRowEdges {
   private static final String FIRM = "dancer child legs 9 grip 9;";
 
   private static String room(int wide, int high, String law, String joins) {
-    return "hall wide " + wide + " high " + high + " law " + law + " joins " + joins + ";" + times(high, "row " + times(wide, "f") + ";");
+    return "hall wide " + wide + " high " + high + " law " + law + " joins " + joins + ";" + Texts.times(high, "row " + Texts.times(wide, "f") + ";");
   }
 
   private static int after(int seed) { return (75 * seed + 74) % 65537; }
@@ -144,9 +118,9 @@ public final class SnakeRowEdges {
     due("where() at the end of nine hundred blanks", x.where(), 900);
     // a text of nine hundred bytes, the last of which counts
     String text = HEAD + END + ";band 0,0 sound 1";
-    text = text.substring(0, text.length() - 1) + times(900 - text.length(), " ") + "4";
+    text = text.substring(0, text.length() - 1) + Texts.times(900 - text.length(), " ") + "4";
     x = new SnakeRow();
-    put(x, text);
+    Texts.put(x, text);
     due("hall(900)", x.hall(900), 1);
     due("late(2,1)", x.late(2, 1), 0);
     due("late(0,0)", x.late(0, 0), 0);
@@ -155,7 +129,7 @@ public final class SnakeRowEdges {
     String hundred = HEAD + END;
     for (int at = 0; at < 20; at++) {
       x = new SnakeRow();
-      put(x, hundred.substring(0, at) + (char) 200 + hundred.substring(at + 1));
+      Texts.put(x, hundred.substring(0, at) + (char) 200 + hundred.substring(at + 1));
       x.hall(hundred.length());
       // a WORD that is cut short by it is no WORD that a HALL goes on with; in a blank's place it cuts none short
       int from = at;
@@ -165,15 +139,15 @@ public final class SnakeRowEdges {
 
     says("The first n bytes of THE TAPE (it is empty then) are the HALL from now on");
     x = new SnakeRow();
-    put(x, hundred + ";band 9,9");
+    Texts.put(x, hundred + ";band 9,9");
     due("hall, of the first bytes alone", x.hall(hundred.length()), 1);
     due("size(15)", x.size(15), 0);
     x = new SnakeRow();
-    put(x, hundred);
+    Texts.put(x, hundred);
     int all = x.size(15);
     due("hall of all", x.hall(all), 1);
     x = new SnakeRow();
-    put(x, hundred);
+    Texts.put(x, hundred);
     due("hall of one byte less", x.hall(hundred.length() - 1), -1);
     due("where()", x.where(), hundred.length() - 4);
   }
@@ -279,8 +253,8 @@ public final class SnakeRowEdges {
     fault(4, HEAD + ONE + "frame 3 |1 at 1,0;" + END);
     sound(HEAD + ONE + "frame 3 0 at 1,0;" + END);
     sound(HEAD + ONE + "dancer plain legs 1 grip 1;frame 3 1 at 1,0;steps 1;leads ahead;snake 1,0 east");
-    fault(4, room(8, 2, "through", "end") + times(8, ONE) + "frame 3 |8 at 1,0");
-    sound(room(8, 2, "through", "end") + times(8, ONE) + "frame 3 7 at 1,0;steps 1;leads ahead;snake 7,0 east");
+    fault(4, room(8, 2, "through", "end") + Texts.times(8, ONE) + "frame 3 |8 at 1,0");
+    sound(room(8, 2, "through", "end") + Texts.times(8, ONE) + "frame 3 7 at 1,0;steps 1;leads ahead;snake 7,0 east");
   }
 
   private static final String[] TABLES = {"table a at 0,0 sits 1 plain legs 1 grip 1 eager 1;", "table b at 1,0 sits 1 plain legs 1 grip 1 eager 1;",
@@ -290,10 +264,10 @@ public final class SnakeRowEdges {
     says("row, as many LINES as high");
     for (int high : new int[] {2, 6}) {
       String head = "hall wide 3 high " + high + " law through joins end;";
-      sound(head + times(high, "row fff;") + END);
-      fault(5, head + times(high, "row fff;") + "|row fff;" + END);
-      fault(6, head + times(high - 1, "row fff;") + ONE + "steps 1;leads ahead;|snake 1,0 east");
-      fault(6, head + times(high - 1, "row fff;") + ONE + "steps 1;leads ahead|");
+      sound(head + Texts.times(high, "row fff;") + END);
+      fault(5, head + Texts.times(high, "row fff;") + "|row fff;" + END);
+      fault(6, head + Texts.times(high - 1, "row fff;") + ONE + "steps 1;leads ahead;|snake 1,0 east");
+      fault(6, head + Texts.times(high - 1, "row fff;") + ONE + "steps 1;leads ahead|");
     }
     says("table, up to 4");
     String four = TABLES[0] + TABLES[1] + TABLES[2] + TABLES[3];
@@ -303,13 +277,13 @@ public final class SnakeRowEdges {
     fault(5, HEAD + four + "|table");
     says("dancer, up to 8");
     String wide = room(8, 2, "through", "end") + "steps 1;leads ahead;";
-    due("many()", sound(wide + times(8, ONE) + "snake 7,0 east").many(), 8);
+    due("many()", sound(wide + Texts.times(8, ONE) + "snake 7,0 east").many(), 8);
     due("many()", sound(wide + ONE + "snake 7,0 east").many(), 1);
-    fault(5, wide + times(8, ONE) + "|" + ONE);
+    fault(5, wide + Texts.times(8, ONE) + "|" + ONE);
     says("frame, up to 8");
     due("size(6)", sound(HEAD + END).size(6), 0);
-    due("size(6)", sound(HEAD + END + times(8, ";frame 0 0 at 1,0")).size(6), 8);
-    fault(5, HEAD + END + times(8, ";frame 0 0 at 1,0") + ";|frame 0 0 at 1,0");
+    due("size(6)", sound(HEAD + END + Texts.times(8, ";frame 0 0 at 1,0")).size(6), 8);
+    fault(5, HEAD + END + Texts.times(8, ";frame 0 0 at 1,0") + ";|frame 0 0 at 1,0");
     says("steps, up to 8; a ninth of steps: at it");
     due("size(5)", sound(HEAD + END).size(5), 1);
     due("size(5)", sound(HEAD + END.replace("steps 1", "steps 0,1,2,3,3,2,1,0")).size(5), 8);
@@ -318,10 +292,10 @@ public final class SnakeRowEdges {
     fault(1, HEAD + "steps |;leads ahead");
     says("leads told SIDE {, SIDE}, up to 12; a thirteenth SIDE: at it");
     for (int n : new int[] {1, 11, 12}) {
-      sound(HEAD + END.replace("leads ahead", "leads told north" + times(n - 1, ",south")));
+      sound(HEAD + END.replace("leads ahead", "leads told north" + Texts.times(n - 1, ",south")));
     }
-    fault(5, HEAD + "leads told north" + times(11, ",south") + ",|east;steps 1");
-    fault(1, HEAD + "leads told north" + times(11, ",south") + ",|ahead;steps 1");
+    fault(5, HEAD + "leads told north" + Texts.times(11, ",south") + ",|east;steps 1");
+    fault(1, HEAD + "leads told north" + Texts.times(11, ",south") + ",|ahead;steps 1");
     fault(1, HEAD + "leads told |;steps 1");
     says("3 a second hall, band, home, steps, leads, snake: at that WORD");
     fault(3, HEAD + END + ";|hall wide 3 high 2 law through joins end");
@@ -413,13 +387,13 @@ public final class SnakeRowEdges {
     says("7 a ROW of other letters, or of more or fewer than wide; at it");
     for (int wide : new int[] {3, 8}) {
       String head = "hall wide " + wide + " high 2 law through joins end;";
-      sound(head + "row " + times(wide, "f") + ";row " + times(wide, "s") + ";" + END);
-      sound(head + "row " + times(wide, "f") + ";row " + times(wide, "w") + ";" + END);
-      fault(7, head + "row |" + times(wide - 1, "f") + ";");
-      if (wide < 8) fault(7, head + "row |" + times(wide + 1, "f") + ";");
+      sound(head + "row " + Texts.times(wide, "f") + ";row " + Texts.times(wide, "s") + ";" + END);
+      sound(head + "row " + Texts.times(wide, "f") + ";row " + Texts.times(wide, "w") + ";" + END);
+      fault(7, head + "row |" + Texts.times(wide - 1, "f") + ";");
+      if (wide < 8) fault(7, head + "row |" + Texts.times(wide + 1, "f") + ";");
       for (String other : "a e g r t v x z".split(" ")) {
-        fault(7, head + "row |" + other + times(wide - 1, "f"));
-        fault(7, head + "row |" + times(wide - 1, "f") + other);
+        fault(7, head + "row |" + other + Texts.times(wide - 1, "f"));
+        fault(7, head + "row |" + Texts.times(wide - 1, "f") + other);
       }
     }
     fault(1, "hall wide 8 high 2 law through joins end;row |fffffffff;");
@@ -433,7 +407,7 @@ public final class SnakeRowEdges {
 
   private static void theRowBehindTheFront() {
     says("a row that stands beyond, on a wall, a table: at the SIDE");
-    String head = room(4, 4, "through", "end") + "steps 1;leads ahead;" + times(3, ONE);
+    String head = room(4, 4, "through", "end") + "steps 1;leads ahead;" + Texts.times(3, ONE);
     String[] side = {"north", "east", "south", "west"};
     int[][] last = {{1, 1}, {2, 1}, {1, 2}, {1, 1}}, first = {{1, 2}, {1, 1}, {1, 1}, {2, 1}};
     for (int i = 0; i < 4; i++) {
@@ -464,7 +438,7 @@ public final class SnakeRowEdges {
     says("of one place the least number");
     String four = TABLES[0] + TABLES[1].replace("1,0", "2,1") + TABLES[2] + TABLES[3];
     fault(5, HEAD + four + ONE + "snake 1,0 north;|table");
-    fault(5, room(8, 2, "through", "end") + times(8, ONE) + "snake 7,0 east;|dancer");
+    fault(5, room(8, 2, "through", "end") + Texts.times(8, ONE) + "snake 7,0 east;|dancer");
     fault(5, HEAD + END + ";|row");
     fault(4, HEAD + "steps 0,0,0,0,0,0,0,0,|4");
     fault(1, HEAD + "steps 0,0,0,0,0,0,0,0,|x");
@@ -488,7 +462,7 @@ public final class SnakeRowEdges {
     // cut behind each byte: what is cut short is told at the end, or at the TOKEN that is no more a WORD
     for (int n = 0; n < text.length(); n++) {
       SnakeRow x = new SnakeRow();
-      put(x, plain);
+      Texts.put(x, plain);
       int got = x.hall(n);
       String cut = plain.substring(0, n);
       boolean whole = n >= (HEAD + "band 2,1 sound 1;home 2,1;" + TABLES[3] + END).length() && (cut.endsWith("east") || cut.endsWith(",2"));
@@ -588,7 +562,7 @@ public final class SnakeRowEdges {
     // by law round the others shut him in
     for (int many = 2; many <= 4; many++) {
       for (String leader : "ahead right left lot home".split(" ")) {
-        String alley = "hall wide 4 high 2 law LAW joins end;row ffff;row wwww;home 0,0;steps 3;leads " + leader + ";" + times(many, ONE) + "snake 3,0 east";
+        String alley = "hall wide 4 high 2 law LAW joins end;row ffff;row wwww;home 0,0;steps 3;leads " + leader + ";" + Texts.times(many, ONE) + "snake 3,0 east";
         SnakeRow x = sound(alley.replace("LAW", "round"));
         x.dance(20);
         due("length() of " + many + " by law round, by " + leader, x.length(), many);
@@ -613,47 +587,47 @@ public final class SnakeRowEdges {
   private static void whereOthersStand() {
     says("where nobody stands NOW (as he goes, the others still stand)");
     // the second one's CELL is shut though he will go on; the front's own is free again
-    SnakeRow x = sound(room(4, 3, "round", "end") + "steps 3;leads told south,west,north;" + times(2, FIRM) + "snake 2,1 east");
+    SnakeRow x = sound(room(4, 3, "round", "end") + "steps 3;leads told south,west,north;" + Texts.times(2, FIRM) + "snake 2,1 east");
     due("at(0,1)", x.at(0, 1), 9);
     due("ran(0,1)", x.ran(0, 1), 2);
-    x = sound(room(4, 3, "round", "end") + "steps 2;leads told east,west;" + times(2, FIRM) + "snake 2,1 east");
+    x = sound(room(4, 3, "round", "end") + "steps 2;leads told east,west;" + Texts.times(2, FIRM) + "snake 2,1 east");
     due("at(0,1)", x.at(0, 1), 6);
     due("ran(0,1)", x.ran(0, 1), 2);
-    x = sound(room(4, 3, "round", "end") + "steps 2;leads told east,west,west;" + times(2, FIRM) + "snake 2,1 east");
+    x = sound(room(4, 3, "round", "end") + "steps 2;leads told east,west,west;" + Texts.times(2, FIRM) + "snake 2,1 east");
     due("over()", x.ring(2), -2);
     // alone, nobody else stands anywhere
     x = sound(room(4, 3, "round", "end") + "steps 2;leads told east,west,west;" + FIRM + "snake 2,1 east");
     due("at(0,2)", x.at(0, 2), 5);
     says("by law through, wherever they stand");
-    x = sound(room(4, 3, "through", "end") + "steps 3;leads told south,west,north;" + times(2, FIRM) + "snake 2,1 east");
+    x = sound(room(4, 3, "through", "end") + "steps 3;leads told south,west,north;" + Texts.times(2, FIRM) + "snake 2,1 east");
     due("at(0,1)", x.at(0, 1), 5);
-    x = sound(room(4, 3, "through", "end") + "steps 3;leads told west,west,west;" + times(3, FIRM) + "snake 2,1 east");
+    x = sound(room(4, 3, "through", "end") + "steps 3;leads told west,west,west;" + Texts.times(3, FIRM) + "snake 2,1 east");
     due("at(0,1)", x.at(0, 1), 4);
     due("ring(1)", x.ring(1), -2);
     due("over()", x.dance(1) * 0 + x.over(), 0);
     says("by law round, where the last one stands, too, if there are three dancers or more: then it is a RING");
-    x = sound(room(3, 2, "round", "end") + LOOP + times(3, ONE) + "snake 2,0 east");
+    x = sound(room(3, 2, "round", "end") + LOOP + Texts.times(3, ONE) + "snake 2,0 east");
     due("ring(1) of three", x.ring(1), -2);
     due("ring(2) of three", x.ring(2), 2);
     due("at(0,2)", x.at(0, 2), 1);
     due("at(2,2)", x.at(2, 2), 1);
-    x = sound(room(3, 2, "round", "end") + LOOP + times(2, ONE) + "snake 2,0 east");
+    x = sound(room(3, 2, "round", "end") + LOOP + Texts.times(2, ONE) + "snake 2,0 east");
     due("ring(40) of two", x.ring(40), -2);
     due("at(0,2) of two: he stays where he is ahead of the second", x.at(0, 2), 1);
     due("ran(0,2) of two", x.ran(0, 2), 5);
-    x = sound(room(4, 2, "round", "end") + "steps 3;leads told south,west,west,east,north;" + times(4, ONE) + "snake 3,0 east");
+    x = sound(room(4, 2, "round", "end") + "steps 3;leads told south,west,west,east,north;" + Texts.times(4, ONE) + "snake 3,0 east");
     due("ring(40) by one in the middle", x.ring(40), -2);
     due("at(0,2)", x.at(0, 2), 6);
-    x = sound(room(4, 2, "round", "end") + "steps 3;leads told south,west,west,north;" + times(4, ONE) + "snake 3,0 east");
+    x = sound(room(4, 2, "round", "end") + "steps 3;leads told south,west,west,north;" + Texts.times(4, ONE) + "snake 3,0 east");
     due("ring(40) by the last of four", x.ring(40), 2);
     // the last one stands there, though another does so, too
-    x = sound(room(3, 3, "round", "end") + "steps 0,3;leads told south,west,north;table t at 0,0 sits 1 plain legs 1 grip 9 eager 100;" + times(2, ONE)
+    x = sound(room(3, 3, "round", "end") + "steps 0,3;leads told south,west,north;table t at 0,0 sits 1 plain legs 1 grip 9 eager 100;" + Texts.times(2, ONE)
         + "snake 1,1 east");
     due("ring(1)", x.ring(1), -2);
     due("ring(2)", x.ring(2), 2);
     due("at(0,2)", x.at(0, 2), 3);
     // two dancers become three, and three two
-    x = sound(room(3, 2, "round", "end") + LOOP + times(3, ONE) + "snake 2,0 east");
+    x = sound(room(3, 2, "round", "end") + LOOP + Texts.times(3, ONE) + "snake 2,0 east");
     x.letGo(2);
     due("ring(40), one let go", x.ring(40), -2);
     x.undo();
@@ -974,7 +948,7 @@ public final class SnakeRowEdges {
     SnakeRow x = sound(room(3, 3, "through", "end") + "steps 0;leads ahead;table t at 2,0 sits 1 plain legs 1 grip 1 eager 100;" + ONE + "snake 0,1 north");
     due("joined(1)", x.joined(1), 0);
     says("the first such, from the front, asks");
-    String text = room(5, 3, "through", "behind") + "steps 0;leads ahead;table t at TT sits 1 plain legs 1 grip 1 eager 100;" + times(4, ONE) + "snake 3,1 east";
+    String text = room(5, 3, "through", "behind") + "steps 0;leads ahead;table t at TT sits 1 plain legs 1 grip 1 eager 100;" + Texts.times(4, ONE) + "snake 3,1 east";
     for (int i = 0; i < 4; i++) {
       x = sound(text.replace("TT", (3 - i) + ",0"));
       x.dance(1);
@@ -1004,7 +978,7 @@ public final class SnakeRowEdges {
   private static void howManyAsk() {
     says("and there are fewer than 16");
     String text = room(8, 3, "through", "end") + "steps 0;leads ahead;table a at 0,0 sits 9 plain legs 1 grip 9 eager 100;"
-        + "table b at 1,0 sits 3 plain legs 1 grip 9 eager EE;" + times(8, ONE) + "snake 7,1 east";
+        + "table b at 1,0 sits 3 plain legs 1 grip 9 eager EE;" + Texts.times(8, ONE) + "snake 7,1 east";
     SnakeRow x = sound(text.replace("EE", "0"));
     for (int i = 1; i <= 9; i++) due("manyIn(" + i + ")", x.manyIn(i), Math.min(8 + i, 16));
     x.dance(7);
@@ -1071,7 +1045,7 @@ public final class SnakeRowEdges {
     x.dance(1);
     due("dancer(1,3), behind the last one, not at the beginning", x.dancer(1, 3), 1);
     says("behind: right behind who asked, at the place of the one who is there (if none is: as at the end)");
-    text = room(8, 2, "through", "behind") + "steps 0;leads ahead;table t at TT sits 2 child legs 1 grip 9 eager 100;" + times(4, ONE) + "snake 4,0 east";
+    text = room(8, 2, "through", "behind") + "steps 0;leads ahead;table t at TT sits 2 child legs 1 grip 9 eager 100;" + Texts.times(4, ONE) + "snake 4,0 east";
     int[][] places = {{3, 2, 2, 1, 0}, {3, 2, 1, 1, 0}, {3, 2, 1, 0, 0}, {3, 2, 1, 0, 0}};
     for (int i = 0; i < 4; i++) {
       x = sound(text.replace("TT", (4 - i) + ",1"));
@@ -1117,7 +1091,7 @@ public final class SnakeRowEdges {
     says("Who joins has the next number");
     StringBuilder tables = new StringBuilder();
     for (int i = 0; i < 4; i++) tables.append("table ").append("abcd".charAt(i)).append(" at ").append(i).append(",0 sits 9 child legs 2 grip 9 eager 100;");
-    SnakeRow x = sound(room(8, 2, "through", "end") + "steps 0;leads ahead;" + tables + times(8, FIRM) + "snake 7,1 east");
+    SnakeRow x = sound(room(8, 2, "through", "end") + "steps 0;leads ahead;" + tables + Texts.times(8, FIRM) + "snake 7,1 east");
     for (int round = 0; round < 9; round++) {
       due("dance(1)", x.dance(1), 12);
       for (int i = 0; i < 4; i++) due("number", x.dancer(8 + i, 0), 8 + 4 * round + i);
@@ -1220,7 +1194,7 @@ public final class SnakeRowEdges {
     due("at(0,20), twenty BEATS ago", x.dancer(0, 1), there);
     says("Who of those there IN t RAN most, the first from the front");
     // the second has come up, and both ran alike; then the third more than either
-    x = sound(room(8, 2, "through", "end") + "steps 2,0,0;leads told east,east;" + times(3, ONE) + "snake 3,0 east");
+    x = sound(room(8, 2, "through", "end") + "steps 2,0,0;leads told east,east;" + Texts.times(3, ONE) + "snake 3,0 east");
     due("runner(1)", x.runner(1), 0);
     due("runner(2)", x.runner(2), 0);
     x.dance(1);
@@ -1309,7 +1283,7 @@ public final class SnakeRowEdges {
     // nobody is torn where nobody goes
     due("holds() shut in", sound("hall wide 3 high 2 law through joins end;row ffw;row wwf;steps 1;leads told north;" + ONE
         + "dancer heavy legs 1 grip 0;snake 1,0 east").holds(), 3);
-    SnakeRow over = sound(room(3, 2, "round", "end") + LOOP + times(3, ONE) + "snake 2,0 east");
+    SnakeRow over = sound(room(3, 2, "round", "end") + LOOP + Texts.times(3, ONE) + "snake 2,0 east");
     over.dance(2);
     due("holds() of a RING", over.holds(), 3);
   }
@@ -1317,17 +1291,17 @@ public final class SnakeRowEdges {
   private static void ordered() {
     says("ORDERS of all but the front (7 dancers in all at most): of like ones the first by places");
     String head = room(8, 2, "through", "end") + "steps 2;leads ahead;" + FIRM;
-    SnakeRow x = sound(head + times(6, FIRM) + "snake 7,0 east");
+    SnakeRow x = sound(head + Texts.times(6, FIRM) + "snake 7,0 east");
     due("order() of seven", x.order(), 0);
     for (int i = 1; i <= 6; i++) due("orderAt(" + i + ")", x.orderAt(i), i);
     // one who is always torn had best be the last one, the others as they are
     for (int weak = 1; weak <= 6; weak++) {
-      x = sound(head + times(weak - 1, FIRM) + "dancer child legs 1 grip 0;" + times(6 - weak, FIRM) + "snake 7,0 east");
+      x = sound(head + Texts.times(weak - 1, FIRM) + "dancer child legs 1 grip 0;" + Texts.times(6 - weak, FIRM) + "snake 7,0 east");
       due("order() with a weak one at " + weak, x.order(), 1);
       for (int i = 1; i <= 6; i++) due("orderAt(" + i + ") with a weak one at " + weak, x.orderAt(i), i == 6 ? weak : i < weak ? i : i + 1);
     }
     // all are out however they stand: the first
-    x = sound(head + times(4, "dancer child legs 1 grip 0;") + "snake 7,0 east");
+    x = sound(head + Texts.times(4, "dancer child legs 1 grip 0;") + "snake 7,0 east");
     due("order() of weak ones", x.order(), 4);
     for (int i = 1; i <= 4; i++) due("orderAt(" + i + ")", x.orderAt(i), i);
     // two weak ones keep their order behind the others
@@ -1514,11 +1488,11 @@ public final class SnakeRowEdges {
     says("is late by a number that the number of steps told divides");
     for (int told = 1; told <= 8; told++) {
       for (int at = 0; at < 8; at++) {
-        x = sound(room(8, 2, "through", "end") + "steps 1" + times(told - 1, ",0") + ";leads ahead;" + ONE + "snake " + at + ",1 north;band 0,0 sound 1");
+        x = sound(room(8, 2, "through", "end") + "steps 1" + Texts.times(told - 1, ",0") + ";leads ahead;" + ONE + "snake " + at + ",1 north;band 0,0 sound 1");
         due("inTime() " + (at + 1) + " late of " + told, x.inTime(), (at + 1) % told == 0 ? 1 : 0);
       }
     }
-    x = sound(room(8, 2, "through", "end") + "steps 1,1,1;leads ahead;" + times(8, ONE) + "snake 7,0 east;band 0,0 sound 1");
+    x = sound(room(8, 2, "through", "end") + "steps 1,1,1;leads ahead;" + Texts.times(8, ONE) + "snake 7,0 east;band 0,0 sound 1");
     due("inTime() of eight", x.inTime(), 3);
     due("it is no KICK", x.kicks(), 0);
     says("BEST BAND: the CELL (no wall) from which most would be IN TIME, the first such");
@@ -1695,21 +1669,76 @@ public final class SnakeRowEdges {
     due("length()", x.length(), 1);
   }
 
+  private static void toldAtTheBounds() {
+    says("all that a text has room for");
+    StringBuilder most = new StringBuilder(room(8, 6, "round", "behind")).append("band 7,5 sound 9;home 7,5;steps 3,3,3,3,3,3,3,0;leads home;");
+    int[][] at = {{0, 5}, {1, 5}, {2, 5}, {3, 5}};
+    for (int i = 0; i < 4; i++) {
+      most.append("table ").append("abcd".charAt(i)).append(" at ").append(at[i][0]).append(",5 sits 9 heavy legs 9 grip 9 eager 100;");
+    }
+    most.append(Texts.times(8, "dancer aunt legs 9 grip 9;")).append("snake 7,0 east").append(Texts.times(8, ";frame 40 7 at 7,5"));
+    SnakeRow x = sound(most.toString());
+    int[] sizes = {8, 6, 1, 1, 4, 8, 8, 4, 1, 0, 0, 47, 47, 0, 0, 0};
+    for (int i = 0; i <= 15; i++) due("size(" + i + ") of the most", x.size(i), sizes[i]);
+    int[] table = {43, 3, 9, 9, 100};
+    for (int i = 0; i < 5; i++) due("table(3," + i + ")", x.table(3, i), table[i]);
+    due("table(4,0)", x.table(4, 0), -1);
+    due("sits(3)", x.sits(3), 9);
+    due("steps(7)", x.steps(7), 0);
+    due("steps(8)", x.steps(8), -1);
+    due("dancer(7,0)", x.dancer(7, 0), 7);
+    due("dancer(7,5)", x.dancer(7, 5), 9);
+    due("dancer(7,6)", x.dancer(7, 6), 9);
+    x.seed(65536);
+    for (int i = 0; i < 12; i++) x.lead(i % 2);
+    for (int i = 0; i < 4; i++) x.mark();
+    for (int i = 0; i < 46; i++) x.feed(0, 0, 0, 0, 0);
+    due("size(10)", x.size(10), 65536);
+    due("size(13)", x.size(13), 10);
+    due("size(14)", x.size(14), 3);
+    due("size(15)", x.size(15), 900);
+    due("size(16)", x.size(16), -1);
+    due("size(-1)", x.size(-1), -1);
+    says("the least that a text has to tell");
+    x = sound("hall wide 3 high 2 law through joins end;row fff;row fff;steps 0;leads ahead;dancer plain legs 1 grip 0;snake 0,0 north");
+    int[] few = {3, 2, 0, 0, 0, 1, 0, 0, 0, 0, 0, -2, -2, 0, 0, 0};
+    for (int i = 0; i <= 15; i++) due("size(" + i + ") of the least", x.size(i), few[i]);
+    due("steps(0)", x.steps(0), 0);
+    due("steps(1)", x.steps(1), -1);
+    due("sits(0)", x.sits(0), -1);
+    due("fits()", x.fits(), 31);
+    x = sound(HEAD + "table t at 0,0 sits 1 plain legs 1 grip 0 eager 0;" + END);
+    int[] least = {0, 0, 1, 0, 0};
+    for (int i = 0; i < 5; i++) due("table(0," + i + ") of the least", x.table(0, i), least[i]);
+    due("sits(0)", x.sits(0), 1);
+    says("the LEADER NOW (0 ahead, 1 right, 2 left, 3 lot, 4 home, 5 told); whither the front looks");
+    String[] leads = {"ahead", "right", "left", "lot", "home", "told north"}, side = {"north", "east", "south", "west"};
+    for (int i = 0; i < 6; i++) due("size(7)", sound(HEAD + END.replace("leads ahead", "leads " + leads[i])).size(7), i);
+    for (int i = 0; i < 4; i++) due("size(8)", sound(HEAD + END.replace("east", side[i])).size(8), i);
+    String[] kind = {"plain", "aunt", "child", "heavy"};
+    for (int i = 0; i < 4; i++) due("dancer(0,4)", sound(HEAD + END.replace("plain", kind[i])).dancer(0, 4), i);
+    says("LAW: through, or round; WHERE: end, or behind");
+    due("law through", sound(room(3, 2, "through", "end") + END).size(2), 0);
+    due("law round", sound(room(3, 2, "round", "end") + END).size(2), 1);
+    due("joins end", sound(room(3, 2, "round", "end") + END).size(3), 0);
+    due("joins behind", sound(room(3, 2, "round", "behind") + END).size(3), 1);
+  }
+
   private static void ledInOrder() {
     says("The i-th from the front (his number) who stands on stairs");
-    SnakeRow x = sound("hall wide 8 high 2 law through joins end;row sfsfssff;row ffffffff;steps 1;leads ahead;" + times(7, FIRM) + "snake 6,0 east");
+    SnakeRow x = sound("hall wide 8 high 2 law through joins end;row sfsfssff;row ffffffff;steps 1;leads ahead;" + Texts.times(7, FIRM) + "snake 6,0 east");
     int[] want = {1, 2, 4, 6, -99};
-    for (int i = 0; i < want.length; i++) due("led(" + i + ")", led(x, i), want[i]);
-    due("led(-1)", led(x, -1), -99);
+    for (int i = 0; i < want.length; i++) due("led(" + i + ")", Texts.led(x, i), want[i]);
+    due("led(-1)", Texts.led(x, -1), -99);
     x.change(1, 6);
-    due("led(0)", led(x, 0), 6);
-    due("led(3)", led(x, 3), 1);
+    due("led(0)", Texts.led(x, 0), 6);
+    due("led(3)", Texts.led(x, 3), 1);
     x = sound("hall wide 3 high 2 law through joins end;row fss;row fff;" + END);
-    due("led(0), the front", led(x, 0), 0);
-    due("led(1)", led(x, 1), -99);
+    due("led(0), the front", Texts.led(x, 0), 0);
+    due("led(1)", Texts.led(x, 1), -99);
     x.dance(1);
-    due("led(0)", led(x, 0), 0);
+    due("led(0)", Texts.led(x, 0), 0);
     x.dance(1);
-    due("led(0), on floor", led(x, 0), -99);
+    due("led(0), on floor", Texts.led(x, 0), -99);
   }
 }

@@ -1,5 +1,3 @@
-import java.util.NoSuchElementException;
-
 /** Each promise by its number: ordinary calls, the edges that the document names, and wrong calls with their TROUBLE. */
 public final class SnakeRowPromises {
   private static int wrong = 0;
@@ -78,17 +76,9 @@ public final class SnakeRowPromises {
 
   private static void fine(SnakeRow x, String call, boolean got) { fine(x, call, got ? 1 : 0, 1); }
 
-  private static void put(SnakeRow x, String text) {
-    for (int i = 0; i < text.length(); i += 20) {
-      int[] five = new int[5];
-      for (int k = 0; k < 20; k++) five[k / 4] = five[k / 4] << 8 | (i + k < text.length() ? text.charAt(i + k) : 32);
-      x.feed(five[0], five[1], five[2], five[3], five[4]);
-    }
-  }
-
   private static SnakeRow read(String text) {
     SnakeRow x = new SnakeRow();
-    put(x, text);
+    Texts.put(x, text);
     x.hall(text.length());
     if (x.trouble() != 0) {
       wrong++;
@@ -102,30 +92,16 @@ public final class SnakeRowPromises {
     int place = barred.indexOf('|');
     String text = barred.replace("|", "");
     SnakeRow x = new SnakeRow();
-    put(x, text);
+    Texts.put(x, text);
     refused(x, "hall of " + barred, x.hall(text.length()), 4);
     due("fault() of " + barred, x.fault(), number);
     due("where() of " + barred, x.where(), place);
-  }
-
-  private static long led(SnakeRow x, int i) {
-    try {
-      return x.led(i);
-    } catch (NoSuchElementException none) {
-      return -99;
-    }
   }
 
   private static final String HEAD = "hall wide 3 high 2 law round joins end;row fff;row fff;";
   private static final String ONE = "dancer plain legs 1 grip 9;";
   private static final String TABLE = "table a at 0,0 sits 1 plain legs 1 grip 1 eager 1;";
   private static final String MEANS = "steps 1;leads ahead;";
-
-  private static String times(int n, String text) {
-    StringBuilder all = new StringBuilder();
-    for (int i = 0; i < n; i++) all.append(text);
-    return all.toString();
-  }
 
   /** Four who are unlike at corners; two steps a beat round a hall of 4 by 3. */
   private static final String CORNERS = "hall wide 4 high 3 law through joins end;row ffff;row ffff;row ffff;steps 2;leads ahead;"
@@ -179,7 +155,7 @@ public final class SnakeRowPromises {
     promise = 3;
     SnakeRow x = new SnakeRow();
     String text = HEAD + MEANS + ONE + ONE + "snake 1,0 east";
-    put(x, text);
+    Texts.put(x, text);
     int bytes = x.size(15);
     refused(x, "hall(-1)", x.hall(-1), 2);
     refused(x, "hall(more)", x.hall(bytes + 1), 2);
@@ -192,7 +168,7 @@ public final class SnakeRowPromises {
     x.mark();
     due("size(13)", x.size(13), 1);
     due("size(14)", x.size(14), 1);
-    put(x, "hall");
+    Texts.put(x, "hall");
     refused(x, "hall(4)", x.hall(4), 4);
     due("THE TAPE is empty", x.size(15), 0);
     fine(x, "the HALL stays", x.many(), 2);
@@ -200,7 +176,7 @@ public final class SnakeRowPromises {
     due("SEED stays", x.size(10), 7);
     due("ACTS stay", x.size(13), 1);
     due("MARKS stay", x.size(14), 1);
-    put(x, text);
+    Texts.put(x, text);
     fine(x, "hall", x.hall(text.length()), 2);
     due("BEAT", x.size(9), 0);
     due("SEED", x.size(10), 0);
@@ -305,12 +281,12 @@ public final class SnakeRowPromises {
     promise = 3;
     fault(5, HEAD + "|row fff");
     fault(5, HEAD + ONE + "snake 0,0 east;|row");
-    fault(5, HEAD + times(8, ONE) + "|dancer");
+    fault(5, HEAD + Texts.times(8, ONE) + "|dancer");
     fault(5, HEAD + TABLE + TABLE.replace("a at 0", "b at 1") + TABLE.replace("a at 0", "c at 2")
         + TABLE.replace("a at 0,0", "d at 0,1") + "|table a");
-    fault(5, HEAD + ONE + times(8, "frame 0 0 at 0,0;") + "|frame");
+    fault(5, HEAD + ONE + Texts.times(8, "frame 0 0 at 0,0;") + "|frame");
     fault(5, HEAD + "steps 0,1,2,3,0,1,2,3,|3");
-    fault(5, HEAD + "leads told " + times(12, "north,") + "|west");
+    fault(5, HEAD + "leads told " + Texts.times(12, "north,") + "|west");
     for (String line : "row band home steps leads table dancer snake frame".split(" ")) {
       fault(6, "|" + line + " x");
       fault(6, "  |" + line);
@@ -325,8 +301,8 @@ public final class SnakeRowPromises {
     fault(6, HEAD + ONE + MEANS.substring(0, MEANS.length() - 1) + "|");
     fault(6, "hall wide 3 high 2 law round joins end|");
     // so much there is room for
-    read(HEAD + ONE + "leads told " + times(11, "north,") + "west;steps 0,1,2,3,0,1,2,3;snake 0,0 east" + times(8, ";frame 0 0 at 0,0"));
-    read("hall wide 8 high 2 law round joins end;row ffffffff;row ffffffff;" + times(8, ONE) + MEANS + "snake 7,1 east");
+    read(HEAD + ONE + "leads told " + Texts.times(11, "north,") + "west;steps 0,1,2,3,0,1,2,3;snake 0,0 east" + Texts.times(8, ";frame 0 0 at 0,0"));
+    read("hall wide 8 high 2 law round joins end;row ffffffff;row ffffffff;" + Texts.times(8, ONE) + MEANS + "snake 7,1 east");
   }
 
   private static void hallWrongFaults() {
@@ -343,7 +319,7 @@ public final class SnakeRowPromises {
     fault(7, HEAD + ONE + ONE + ONE + "snake 0,1 |south;" + MEANS);
     fault(7, walled + ONE + ONE + "snake 1,0 |east");
     fault(7, HEAD + TABLE + ONE + ONE + "snake 0,1 |south");
-    fault(7, HEAD + ONE + times(3, ONE) + "snake 2,0 |east");
+    fault(7, HEAD + ONE + Texts.times(3, ONE) + "snake 2,0 |east");
     // NAMES may be any other WORDS, and need no more than a letter's unlikeness
     read(HEAD + TABLE.replace("table a", "table az") + TABLE.replace("a at 0,0", "azz at 1,0") + TABLE.replace("a at 0,0", "at at 2,0")
         + TABLE.replace("a at 0,0", "zzzzzzzz at 0,1") + ONE + MEANS + "snake 1,1 west");
@@ -354,7 +330,7 @@ public final class SnakeRowPromises {
   private static void faultAndWhere() {
     promise = 4;
     SnakeRow x = new SnakeRow();
-    put(x, "hall wide 9");
+    Texts.put(x, "hall wide 9");
     x.hall(11);
     due("fault()", x.fault(), 4);
     promise = 5;
@@ -372,11 +348,11 @@ public final class SnakeRowPromises {
     promise = 5;
     due("where() behind a refusal by 2", x.where(), -1);
     promise = 4;
-    put(x, " ");
+    Texts.put(x, " ");
     x.hall(40);
     due("fault()", x.fault(), 1);
     String text = HEAD + MEANS + ONE + "snake 0,0 east";
-    put(x, text);
+    Texts.put(x, text);
     fine(x, "hall", x.hall(text.length()), 1);
     due("fault() without one", x.fault(), 0);
     promise = 5;
@@ -651,7 +627,7 @@ public final class SnakeRowPromises {
     due("one DRAW for each", full.size(10), seed);
     // behind who asked, at the place of the one who is there; the first from the front who stands beside asks
     String behind = "hall wide 5 high 2 law through joins behind;row fffff;row fffff;steps 0;leads ahead;"
-        + "table a at 2,1 sits 3 child legs 7 grip 6 eager 100;" + times(4, ONE) + "snake 3,0 east";
+        + "table a at 2,1 sits 3 child legs 7 grip 6 eager 100;" + Texts.times(4, ONE) + "snake 3,0 east";
     SnakeRow b = read(behind);
     b.dance(1);
     int[] numbers = {0, 1, 4, 2, 3};
@@ -845,7 +821,7 @@ public final class SnakeRowPromises {
     fine(all, "of like ones the first", all.orderAt(1), 1);
     fine(all, "of like ones the first", all.orderAt(2), 2);
     promise = 27;
-    SnakeRow eight = read(STRAIGHT + times(7, "dancer child legs 9 grip 9;") + "snake 7,0 east");
+    SnakeRow eight = read(STRAIGHT + Texts.times(7, "dancer child legs 9 grip 9;") + "snake 7,0 east");
     refused(eight, "order() of eight", eight.order(), 3);
     promise = 28;
     refused(eight, "orderAt(1) of eight", eight.orderAt(1), 3);
@@ -936,7 +912,7 @@ public final class SnakeRowPromises {
 
   private static void bandAndKicks() {
     SnakeRow none = new SnakeRow();
-    String text = "hall wide 5 high 2 law through joins end;row fffff;row ffffw;steps 1,0,2;leads ahead;" + times(3, ONE) + "snake 2,0 east";
+    String text = "hall wide 5 high 2 law through joins end;row fffff;row ffffw;steps 1,0,2;leads ahead;" + Texts.times(3, ONE) + "snake 2,0 east";
     SnakeRow x = read(text + ";band 4,1 sound 2");
     SnakeRow quiet = read(text);
     promise = 33;
@@ -1264,21 +1240,21 @@ public final class SnakeRowPromises {
   private static void ledOnStairs() {
     promise = 50;
     SnakeRow none = new SnakeRow();
-    due("led(0) without a HALL", led(none, 0), -99);
-    SnakeRow x = read("hall wide 4 high 2 law through joins end;row sfss;row ffff;" + MEANS + times(4, ONE) + "snake 3,0 east");
+    due("led(0) without a HALL", Texts.led(none, 0), -99);
+    SnakeRow x = read("hall wide 4 high 2 law through joins end;row sfss;row ffff;" + MEANS + Texts.times(4, ONE) + "snake 3,0 east");
     refused(x, "dancer(9,0)", x.dancer(9, 0), 1);
-    due("led(0)", led(x, 0), 0);
-    due("led(1)", led(x, 1), 1);
-    due("led(2)", led(x, 2), 3);
-    due("led(3)", led(x, 3), -99);
-    due("led(-1)", led(x, -1), -99);
-    due("led(99)", led(x, 99), -99);
+    due("led(0)", Texts.led(x, 0), 0);
+    due("led(1)", Texts.led(x, 1), 1);
+    due("led(2)", Texts.led(x, 2), 3);
+    due("led(3)", Texts.led(x, 3), -99);
+    due("led(-1)", Texts.led(x, -1), -99);
+    due("led(99)", Texts.led(x, 99), -99);
     due("TROUBLE stays", x.trouble(), 1);
     x.change(1, 2);
-    due("led(1)", led(x, 1), 2);
+    due("led(1)", Texts.led(x, 1), 2);
     // on a table that stands on stairs nobody stands
     SnakeRow floor = read(SOUTH);
-    due("led(0) on floor", led(floor, 0), -99);
+    due("led(0) on floor", Texts.led(floor, 0), -99);
   }
 
   private static void sizes() {
@@ -1323,7 +1299,7 @@ public final class SnakeRowPromises {
     x.fault();
     x.where();
     x.feed(1, 1, 1, 1, 1);
-    led(x, 0);
+    Texts.led(x, 0);
     due("4 stays", x.trouble(), 4);
     x = read(RING);
     due("0", x.trouble(), 0);

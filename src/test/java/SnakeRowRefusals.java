@@ -1,4 +1,3 @@
-import java.util.NoSuchElementException;
 import java.util.function.Function;
 import java.util.function.ToIntBiFunction;
 
@@ -45,30 +44,16 @@ public final class SnakeRowRefusals {
   private static final String RING = "hall wide 3 high 2 law round joins end;row fff;row fff;steps 3;leads right;"
       + "dancer plain legs 1 grip 9;dancer plain legs 1 grip 9;dancer plain legs 1 grip 9;snake 2,0 east";
 
-  private static String times(int n, String text) {
-    StringBuilder all = new StringBuilder();
-    for (int i = 0; i < n; i++) all.append(text);
-    return all.toString();
-  }
-
-  private static void put(SnakeRow x, String text) {
-    for (int i = 0; i < text.length(); i += 20) {
-      int[] five = new int[5];
-      for (int k = 0; k < 20; k++) five[k / 4] = five[k / 4] << 8 | (i + k < text.length() ? text.charAt(i + k) : 32);
-      x.feed(five[0], five[1], five[2], five[3], five[4]);
-    }
-  }
-
   private static SnakeRow read(String text) {
     SnakeRow x = new SnakeRow();
-    put(x, text);
+    Texts.put(x, text);
     if (x.hall(text.length()) < 0) tell("a sound text is refused: " + text);
     return x;
   }
 
   private static SnakeRow none() {
     SnakeRow x = new SnakeRow();
-    put(x, "something that stands on the tape, forty");
+    Texts.put(x, "something that stands on the tape, forty");
     return x;
   }
 
@@ -84,13 +69,13 @@ public final class SnakeRowRefusals {
 
   private static SnakeRow eight() {
     return read("hall wide 8 high 2 law through joins end;row ffffffff;row ffffffff;steps 1;leads ahead;"
-        + times(8, "dancer child legs 9 grip 9;") + "snake 7,0 east");
+        + Texts.times(8, "dancer child legs 9 grip 9;") + "snake 7,0 east");
   }
 
   /** Much has come to pass: ACTS to undo, three MARKS, bytes on the tape, a SEED. */
   private static SnakeRow busy() {
     SnakeRow x = lessBusy();
-    put(x, "forty bytes that wait on the tape for it");
+    Texts.put(x, "forty bytes that wait on the tape for it");
     return x;
   }
 
@@ -111,14 +96,6 @@ public final class SnakeRowRefusals {
   }
 
   // ---- all that can be asked
-
-  private static long led(SnakeRow x, int i) {
-    try {
-      return x.led(i);
-    } catch (NoSuchElementException none) {
-      return -99;
-    }
-  }
 
   /** Some 450 calls at the most: an object may be asked 512. */
   private static String everything(SnakeRow x) {
@@ -184,7 +161,7 @@ public final class SnakeRowRefusals {
   private static long bit(boolean b) { return b ? 1 : 0; }
 
   /** Times that are no t: 2; without a HALL any is refused by 1. */
-  private static void times(String name, ToIntBiFunction<SnakeRow, Integer> call) {
+  private static void wrongTimes(String name, ToIntBiFunction<SnakeRow, Integer> call) {
     for (int t : new int[] {-1, 41, LEAST, MOST}) {
       none(name + "(" + t + ")", SnakeRowRefusals::busy, x -> call.applyAsInt(x, t), 2);
       none(name + "(" + t + ") without a HALL", SnakeRowRefusals::none, x -> call.applyAsInt(x, t), 1);
@@ -211,9 +188,9 @@ public final class SnakeRowRefusals {
 
   private static void feeding() {
     promise = 2;
-    String text = BARE + times(900, " ").substring(BARE.length());
+    String text = BARE + Texts.times(900, " ").substring(BARE.length());
     SnakeRow x = new SnakeRow();
-    put(x, text.substring(0, 880));
+    Texts.put(x, text.substring(0, 880));
     due("size(15)", x.size(15), 880);
     due("the last feed that has room", x.feed(0x20202020, 0x20202020, 0x20202020, 0x20202020, 0x20202020), 900);
     x.many();
@@ -257,13 +234,13 @@ public final class SnakeRowRefusals {
     SnakeRow x = lessBusy(), twin = lessBusy();
     String late = "hall wide 8 high 2 law round joins end;row ssssssss;row ssssssss;band 0,0 sound 9;home 1,1;steps 3;leads lot;"
         + "dancer heavy legs 9 grip 0;table z at 0,1 sits 9 aunt legs 9 grip 9 eager 100;snake 7,0 east;frame 41";
-    put(x, late);
+    Texts.put(x, late);
     due("hall", x.hall(late.length()), -1);
     due("where()", x.where(), late.length() - 2);
     twin.hall(0);
     due("fault() of it", x.fault(), 4);
     SnakeRow lateTwin = lessBusy();
-    put(lateTwin, "hall wide 9");
+    Texts.put(lateTwin, "hall wide 9");
     lateTwin.hall(11);
     same("hall, refused at its end", x, lateTwin);
     promise = 4;
@@ -276,7 +253,7 @@ public final class SnakeRowRefusals {
     due("trouble()", x.trouble(), 4);
     x.hall(1);
     due("fault() behind a refusal by 2", x.fault(), 1);
-    put(x, BARE);
+    Texts.put(x, BARE);
     x.hall(BARE.length());
     due("fault() of a sound text", x.fault(), 0);
     promise = 5;
@@ -285,7 +262,7 @@ public final class SnakeRowRefusals {
     due("where()", x.where(), 0);
     x.fault();
     x.size(99);
-    led(x, 0);
+    Texts.led(x, 0);
     x.trouble();
     x.feed(1, 1, 1, 1, 1);
     due("where() behind calls that no number is told of", x.where(), 0);
@@ -329,11 +306,11 @@ public final class SnakeRowRefusals {
 
   private static void askingAhead() {
     promise = 15;
-    times("manyIn", (x, t) -> x.manyIn(t));
+    wrongTimes("manyIn", (x, t) -> x.manyIn(t));
     promise = 16;
-    times("at", (x, t) -> x.at(0, t));
+    wrongTimes("at", (x, t) -> x.at(0, t));
     promise = 17;
-    times("ran", (x, t) -> x.ran(0, t));
+    wrongTimes("ran", (x, t) -> x.ran(0, t));
     for (int i : new int[] {-1, LEAST}) {
       for (int t : new int[] {0, 40, 41, -1}) {
         promise = 16;
@@ -350,18 +327,18 @@ public final class SnakeRowRefusals {
     due("ran(2147483647,3)", x.ran(MOST, 3), 0);
     due("trouble()", x.trouble(), 0);
     promise = 18;
-    times("runner", (y, t) -> y.runner(t));
+    wrongTimes("runner", (y, t) -> y.runner(t));
     promise = 19;
-    times("widest", (y, t) -> y.widest(t));
+    wrongTimes("widest", (y, t) -> y.widest(t));
     promise = 20;
-    times("torn", (y, t) -> y.torn(t));
+    wrongTimes("torn", (y, t) -> y.torn(t));
     promise = 21;
-    times("tornBy", (y, t) -> y.tornBy(t));
+    wrongTimes("tornBy", (y, t) -> y.tornBy(t));
     for (int t : new int[] {0, 40}) none("tornBy(" + t + ") of one who can't be torn", SnakeRowRefusals::bare, y -> y.tornBy(t), 6);
     promise = 22;
-    times("joined", (y, t) -> y.joined(t));
+    wrongTimes("joined", (y, t) -> y.joined(t));
     promise = 23;
-    times("ring", (y, t) -> y.ring(t));
+    wrongTimes("ring", (y, t) -> y.ring(t));
     int many = busy().many();
     for (int i : new int[] {-1, 0, many, LEAST, MOST}) {
       for (int k : new int[] {0, 1, 4, 5}) {
@@ -406,7 +383,7 @@ public final class SnakeRowRefusals {
     for (int i : new int[] {1, 7}) none("orderAt(" + i + ") of eight", SnakeRowRefusals::eight, x -> x.orderAt(i), 3);
     none("orderAt(1)", SnakeRowRefusals::none, x -> x.orderAt(1), 1);
     promise = 29;
-    times("leader", (x, t) -> x.leader(t));
+    wrongTimes("leader", (x, t) -> x.leader(t));
     for (int d : new int[] {-1, 0, 6, 41, LEAST, MOST}) {
       promise = 30;
       none("plan(" + d + ")", SnakeRowRefusals::busy, x -> x.plan(d), 2);
@@ -551,15 +528,15 @@ public final class SnakeRowRefusals {
     none("steps(0)", SnakeRowRefusals::none, x -> x.steps(0), 1);
     promise = 50;
     int onStairs = 0;
-    for (int i = 0; i < 5; i++) onStairs += led(busy(), i) >= 0 ? 1 : 0;
+    for (int i = 0; i < 5; i++) onStairs += Texts.led(busy(), i) >= 0 ? 1 : 0;
     for (int i : new int[] {-1, onStairs, LEAST, MOST}) {
       SnakeRow x = busy();
       x.many();
-      due("led(" + i + ")", led(x, i), -99);
+      due("led(" + i + ")", Texts.led(x, i), -99);
       due("TROUBLE stays", x.trouble(), 0);
       same("led(" + i + ")", x, busy());
     }
-    due("led(0) without a HALL", led(none(), 0), -99);
+    due("led(0) without a HALL", Texts.led(none(), 0), -99);
     promise = 51;
     for (int what : new int[] {-1, 16, LEAST, MOST}) {
       SnakeRow x = busy();
@@ -624,8 +601,8 @@ public final class SnakeRowRefusals {
       promise = 24;
       SnakeRow x = ring();
       x.jolt(k, 1);
-      x.grows(k, 1);
       x.undo();
+      due("ring(40) behind a JOLT of a RING, undone", x.ring(40), 2);
       SnakeRow twin = ring();
       twin.undo();
       same("a JOLT of a RING", x, twin);
@@ -642,39 +619,39 @@ public final class SnakeRowRefusals {
   private static void readAnew() {
     promise = 3;
     SnakeRow x = lessBusy();
-    put(x, RICH);
+    Texts.put(x, RICH);
     due("hall", x.hall(RICH.length()), 4);
     due("trouble()", x.trouble(), 0);
     same("a HALL, read again,", x, fresh());
     x = lessBusy();
-    put(x, BARE);
+    Texts.put(x, BARE);
     due("hall", x.hall(BARE.length()), 1);
     same("another HALL", x, bare());
     x = ring();
-    put(x, RICH + "  what is behind the first bytes is no more there");
+    Texts.put(x, RICH + "  what is behind the first bytes is no more there");
     due("hall", x.hall(RICH.length()), 4);
     same("another HALL, with more on the tape,", x, fresh());
     // nothing of the HALL before is left: SIDES told, who sits, steps, frames, dancers
-    String full = ROOM + "steps 1,1,1,1,1,1,1,1;leads told east" + times(11, ",east") + ";table a at 0,0 sits 9 heavy legs 9 grip 9 eager 9;"
+    String full = ROOM + "steps 1,1,1,1,1,1,1,1;leads told east" + Texts.times(11, ",east") + ";table a at 0,0 sits 9 heavy legs 9 grip 9 eager 9;"
         + "table b at 1,0 sits 8 heavy legs 8 grip 8 eager 8;table c at 2,0 sits 7 heavy legs 7 grip 7 eager 7;"
-        + "table d at 3,0 sits 6 heavy legs 6 grip 6 eager 6;" + times(4, "dancer heavy legs 1 grip 1;") + "band 1,1 sound 9;home 1,1;snake 3,3 east"
-        + times(8, ";frame 1 1 at 1,1");
+        + "table d at 3,0 sits 6 heavy legs 6 grip 6 eager 6;" + Texts.times(4, "dancer heavy legs 1 grip 1;") + "band 1,1 sound 9;home 1,1;snake 3,3 east"
+        + Texts.times(8, ";frame 1 1 at 1,1");
     String little = RICH.replace("leads ahead", "leads told south,west");
-    String bareTold = BARE.replace("leads ahead", "leads told south" + times(11, ",north"));
+    String bareTold = BARE.replace("leads ahead", "leads told south" + Texts.times(11, ",north"));
     for (String then : new String[] {RICH, BARE, RING, little, bareTold}) {
       x = read(full);
-      put(x, then);
+      Texts.put(x, then);
       if (x.hall(then.length()) < 0) tell("a sound text is refused behind another: " + then);
       same("a HALL behind a full one", x, read(then));
       // a full one that fails at its end leaves nothing either
       x = new SnakeRow();
-      put(x, full + ";");
+      Texts.put(x, full + ";");
       due("hall", x.hall(full.length() + 1), -1);
-      put(x, then);
+      Texts.put(x, then);
       if (x.hall(then.length()) < 0) tell("a sound text is refused behind a faulty one: " + then);
       same("a HALL behind a faulty one", x, read(then));
       x = read(then);
-      put(x, full);
+      Texts.put(x, full);
       if (x.hall(full.length()) < 0) tell("a sound text is refused behind another: " + full);
       same("a full HALL", x, read(full));
     }
