@@ -11,9 +11,13 @@ import java.util.NoSuchElementException;
  * halls. The numbers come from a fixed row, so that every run asks the same.
  */
 public final class SnakeRowModel {
-  private static final int ROUNDS = 900;
+  private static final int ROUNDS = 1100;
   private static final int CALLS = 170;
+  // what an object answers to later calls is free
+  private static final int MOST_CALLS = 512;
   private static int wrong = 0;
+  // calls of the object that is asked now
+  private static int asked = 0;
   private static long lot = 20261119L;
 
   public static void main(String[] args) {
@@ -43,11 +47,12 @@ public final class SnakeRowModel {
   private static boolean playRound(int round) {
     SnakeRow x = new SnakeRow();
     Model m = new Model();
+    asked = 0;
     List<String> log = new ArrayList<>();
     if (oneIn(10)) for (int i = 0; i < 12; i++) ask(x, m, log, round);
     boolean good = false;
     int halls = oneIn(4) ? 6 : 2;
-    for (int h = 0; h < halls; h++) {
+    for (int h = 0; h < halls && asked < MOST_CALLS - 60; h++) {
       String text = oneIn(4) ? Maker.spoil(Maker.text()) : Maker.text();
       if (text.length() > 880) text = text.substring(0, 880);
       log.add("text: " + text);
@@ -60,8 +65,8 @@ public final class SnakeRowModel {
       check(log, round, "where()", x.where(), m.where());
       if (before < 0 && m.text == null) continue;
       boolean far = oneIn(14);
-      for (int i = 0; i < 9 && far; i++) check(log, round, "dance(20)", x.dance(20), m.dance(20));
-      for (int i = 0; i < CALLS / halls && wrong < 20; i++) ask(x, m, log, round);
+      for (int i = 0; i < 9 && far && asked < MOST_CALLS; i++) check(log, round, "dance(20)", x.dance(20), m.dance(20));
+      for (int i = 0; i < CALLS / halls && wrong < 20 && asked < MOST_CALLS - 3; i++) ask(x, m, log, round);
       if (oneIn(3)) walkState(x, m, log, round);
     }
     return good;
@@ -82,13 +87,14 @@ public final class SnakeRowModel {
 
   private static void walkState(SnakeRow x, Model m, List<String> log, int round) {
     for (int i = 0; i < m.many() + 1; i++) {
-      for (int w = -1; w < 8; w++) check(log, round, "dancer(" + i + "," + w + ")", x.dancer(i, w), m.dancer(i, w));
+      for (int w = -1; w < 8 && asked < MOST_CALLS; w++) check(log, round, "dancer(" + i + "," + w + ")", x.dancer(i, w), m.dancer(i, w));
     }
-    for (int i = -1; i <= m.now.way.size(); i++) check(log, round, "way(" + i + ")", x.way(i), m.way(i));
-    for (int i = -1; i < 18; i++) check(log, round, "size(" + i + ")", x.size(i), m.size(i));
+    for (int i = -1; i <= m.now.way.size() && asked < MOST_CALLS; i++) check(log, round, "way(" + i + ")", x.way(i), m.way(i));
+    for (int i = -1; i < 18 && asked < MOST_CALLS; i++) check(log, round, "size(" + i + ")", x.size(i), m.size(i));
   }
 
   private static boolean check(List<String> log, int round, String call, long got, long want) {
+    asked++;
     log.add(call + " = " + want);
     if (got == want) return true;
     wrong++;
