@@ -1512,6 +1512,13 @@ public final class SnakeRowEdges {
     x = sound("hall wide 3 high 2 law through joins end;row fff;row fff;steps 1;leads ahead;table t at 0,0 sits 1 plain legs 1 grip 1 eager 1;"
         + ONE + "snake 2,0 north;band 1,1 sound 1");
     due("bestBand(), a table is no wall", x.bestBand(), 0);
+    // at 0,0 and 1,1, four steps told: from 0,4 both would be late by 4, but that is below the hall
+    x = sound(room(4, 4, "through", "end") + "steps 2,0,0,0;leads told north,west;" + ONE + ONE + "snake 1,1 west;band 3,3 sound 1");
+    x.dance(1);
+    due("where the front stands", x.stands(0, 0), 0);
+    due("where the other stands", x.stands(1, 1), 1);
+    due("bestBand(), in the hall alone", x.bestBand(), 0);
+    due("inTime() from 0,0", x.band(0, 0) ? x.inTime() : -9, 1);
   }
 
   private static void wayOut() {

@@ -774,9 +774,24 @@ public final class SnakeRowPromises {
     fine(still, "the steps are lost, the BEATS go on", still.jolt(1, 1), 0);
     SnakeRow aunt = read(STRAIGHT.replace("row ffffffff;row", "row ffffffss;row") + "dancer aunt legs 9 grip 9;snake 3,0 east");
     fine(aunt, "out on stairs, too", aunt.jolt(1, 1), -2);
+    auntBetween();
     // told SIDES are not gone while the front stands
     SnakeRow told = read(STRAIGHT.replace("ahead", "told east,east").replace("steps 2,0", "steps 2") + "dancer child legs 1 grip 9;snake 3,0 east");
     fine(told, "told SIDES stay", told.jolt(4, 1), 1);
+  }
+
+  /** An aunt goes out on stairs by the JOLT, and the one behind her stays: nothing GROWS from one who is out. */
+  private static void auntBetween() {
+    SnakeRow x = read("hall wide 8 high 2 law through joins end;row fffsffff;row ffffffff;steps 1;leads ahead;dancer plain legs 9 grip 9;"
+        + "dancer aunt legs 9 grip 9;dancer child legs 9 grip 9;dancer child legs 9 grip 9;snake 3,1 east");
+    fine(x, "who there is behind 13 BEATS", x.manyIn(13), 3);
+    promise = 24;
+    fine(x, "jolt(1,1), she is out", x.jolt(1, 1), -2);
+    fine(x, "jolt(1,2), he stays", x.jolt(1, 2), 1);
+    promise = 25;
+    fine(x, "grows(1,1) from one who is out", x.grows(1, 1), -2);
+    fine(x, "grows(1,2) behind her", x.grows(1, 2), -1);
+    promise = 24;
   }
 
   // ---- what is best
@@ -856,6 +871,16 @@ public final class SnakeRowPromises {
     fine(left, "ahead and left come beside it", left.leader(1), 0);
     left = read(SOUTH.replace("t at 2,2", "t at 0,2").replace("home 1,2", "home 2,0"));
     fine(left, "left alone comes beside it", left.leader(1), 2);
+    // only to the west one comes beside the table: lot and told go there, but they are not among the four
+    String west = "hall wide 5 high 3 law through joins end;row fffff;row fffff;row fffff;steps 1;"
+        + "table t at 0,1 sits 1 plain legs 1 grip 9 eager 100;dancer plain legs 1 grip 9;snake 2,1 east;leads ";
+    SnakeRow lot = read(west + "lot");
+    lot.seed(3);
+    fine(lot, "by lot one joins", lot.manyIn(1), 2);
+    fine(lot, "lot is not among them", lot.leader(1), 0);
+    SnakeRow told = read(west + "told west");
+    fine(told, "as told one joins", told.manyIn(1), 2);
+    fine(told, "told is not among them", told.leader(1), 0);
   }
 
   private static void plans() {
